@@ -282,19 +282,21 @@ public final class SlipCoach {
         return leastMeasure(kind, platform, yard, speed, Reach.BY_DROP);
     }
 
+    /** By the RAIN that the track has for the moment: no HANDLING that is remembered is asked. */
     private int leastMeasure(int kind, int platform, int yard, int speed, int measure) {
         if (!hasAim(kind, platform, yard, speed)) {
             return NO_SUCH;
         }
-        reach.spread(track, kind, yard, speed, measure);
-        return reach.least(now.firstStand(kind, platform), now.platforms.get(platform, TO));
+        int last = now.platforms.get(platform, TO);
+        reach.spread(track, kind, yard, speed, measure, last);
+        return reach.least(now.firstStand(kind, platform), last);
     }
 
     public int stands(int kind, int yard, int speed, int what) {
         if (!hasRun(kind, yard, speed) || !isAmong(what, 0, 2)) {
             return NO_SUCH;
         }
-        reach.spread(track, kind, yard, speed, Reach.BY_TICKS);
+        reach.spread(track, kind, yard, speed, Reach.BY_TICKS, now.length);
         int first = NONE;
         int last = NONE;
         int many = 0;
@@ -354,7 +356,7 @@ public final class SlipCoach {
         for (int n = 0; n <= MOST_RAIN; n++) {
             if (n == 0 || track.brakesDiffer(kind, n)) {
                 track.soakKind(kind, n);
-                if (!canNow(kind, platform, yard, speed)) {
+                if (leastMeasure(kind, platform, yard, speed, Reach.BY_TICKS) == NONE) {
                     break;
                 }
             }
@@ -362,12 +364,6 @@ public final class SlipCoach {
         }
         track.soakKind(kind, rain);
         return greatest;
-    }
-
-    /** Asked of the RAIN that the track has for the moment, for which no HANDLING is remembered. */
-    private boolean canNow(int kind, int platform, int yard, int speed) {
-        reach.spread(track, kind, yard, speed, Reach.BY_TICKS);
-        return reach.least(now.firstStand(kind, platform), now.platforms.get(platform, TO)) != NONE;
     }
 
     public int room(int kind, int platform) {
@@ -598,9 +594,13 @@ public final class SlipCoach {
         journey.runAll();
         int old = now.trains.get(train, START);
         int first = NONE;
-        for (int tick = 0; tick <= LATEST_START && first == NONE; tick++) {
+        boolean others = false;
+        for (int tick = 0; tick <= LATEST_START && first == NONE && !others; tick++) {
             now.trains.set(train, START, tick);
-            if (!breach.find()) {
+            if (breach.find()) {
+                // What the others do to one another they do by any START of this one.
+                others = !breach.concerns(train);
+            } else {
                 first = tick;
             }
         }
@@ -1328,10 +1328,6 @@ public final class SlipCoach {
             return isAmong(yard, 0, LONGEST) ? limits[yard] : FASTEST;
         }
 
-        int length() {
-            return line == null ? 0 : line.length;
-        }
-
         /** A TRAIN's SPEED from a YARD with so many COACHES. */
         int pulled(int train, int yard, int coaches) {
             if (line == null) {
@@ -1343,12 +1339,15 @@ public final class SlipCoach {
 
         /** SPEED behind a TICK (II). */
         int slowed(int kind, int yard, int speed, int step) {
-            if (!isAmong(kind, 0, MOST_KINDS - 1) || !isAmong(yard, 0, LONGEST)
-                    || !isAmong(step, 0, HARDEST_STEP)) {
-                return 0;
+            return speedLess(speed, takeOf(kind, yard, step));
+        }
+
+        /** What SPEED loses (below 0: gains) at a YARD by a STEP. */
+        int takeOf(int kind, int yard, int step) {
+            if (kind < 0 || kind >= MOST_KINDS || yard < 0 || yard > LONGEST || step < 0 || step >= STEPS) {
+                return FASTEST;
             }
-            int left = speed - takes[(kind * STEPS + step) * YARDS + yard];
-            return Math.max(0, Math.min(FASTEST, left));
+            return takes[(kind * STEPS + step) * YARDS + yard];
         }
 
         private static int taken(int brake, int wet) {
@@ -1369,6 +1368,14 @@ public final class SlipCoach {
 
     private static int cellOf(int yard, int speed) {
         return yard * SPEEDS + speed;
+    }
+
+    private static int speedLess(int speed, int take) {
+        int left = speed - take;
+        if (left < 0) {
+            return 0;
+        }
+        return left > FASTEST ? FASTEST : left;
     }
 
     /** HANDLINGS (III) of each KIND to each PLATFORM, worked out when first asked for. */
@@ -1427,26 +1434,29 @@ public final class SlipCoach {
             int last = Math.min(LONGEST, line.platforms.get(platform, TO));
             for (int yard = last; yard >= 0 && first <= last; yard--) {
                 for (int speed = 1; speed <= FASTEST; speed++) {
-                    int cell = cellOf(yard, speed);
-                    int best = NONE;
-                    for (int step = 0; step < STEPS; step++) {
-                        int left = track.slowed(kind, yard, speed, step);
-                        int all = sumBehind(yard, left, first, last);
-                        if (all != NONE && (best == NONE || all + step < best)) {
-                            best = all + step;
-                            table[cell] = (byte) step;
-                        }
-                    }
-                    sums[cell] = best;
+                    sums[cellOf(yard, speed)] = NONE;
+                }
+                int standing = yard >= first ? 0 : NONE;
+                for (int step = 0; step < STEPS; step++) {
+                    tryStep(table, yard, step, track.takeOf(kind, yard, step), standing, last);
                 }
             }
         }
 
-        private int sumBehind(int yard, int left, int first, int last) {
-            if (left == 0) {
-                return yard >= first ? 0 : NONE;
+        /** Where a STEP leads to a lesser sum than the STEPS below it, it is the one to begin by. */
+        private void tryStep(byte[] table, int yard, int step, int take, int standing, int last) {
+            for (int speed = 1; speed <= FASTEST; speed++) {
+                int left = speedLess(speed, take);
+                int all = standing;
+                if (left > 0) {
+                    all = yard + left > last ? NONE : sums[(yard + left) * SPEEDS + left];
+                }
+                int cell = yard * SPEEDS + speed;
+                if (all != NONE && (sums[cell] == NONE || all + step < sums[cell])) {
+                    sums[cell] = all + step;
+                    table[cell] = (byte) step;
+                }
             }
-            return yard + left > last ? NONE : sums[cellOf(yard + left, left)];
         }
 
         /** Goes along a HANDLING to its end; whether there is one. */
@@ -1481,23 +1491,29 @@ public final class SlipCoach {
         private final int[] standing = new int[YARDS];
         private int farthest = 0;
 
-        void spread(Track track, int kind, int yard, int speed, int measure) {
+        /** What goes beyond the YARD last is not followed. */
+        void spread(Track track, int kind, int yard, int speed, int measure, int last) {
             Arrays.fill(moving, NONE);
             Arrays.fill(standing, NONE);
             if (!isAmong(yard, 0, LONGEST) || !isAmong(speed, 1, FASTEST)) {
                 return;
             }
-            int length = Math.min(LONGEST, track.length());
+            int end = Math.min(LONGEST, last);
             moving[cellOf(yard, speed)] = 0;
             farthest = yard;
-            for (int at = yard; at <= farthest && at <= length; at++) {
-                for (int fast = 1; fast <= FASTEST; fast++) {
-                    int cost = moving[cellOf(at, fast)];
-                    for (int step = 0; step < STEPS && cost != NONE; step++) {
-                        int left = track.slowed(kind, at, fast, step);
-                        int more = grown(cost, measure, step, fast - left);
-                        arrive(at + left, left, more, length);
-                    }
+            for (int at = yard; at <= farthest && at <= end; at++) {
+                for (int step = 0; step < STEPS; step++) {
+                    goOn(at, step, track.takeOf(kind, at, step), measure, end);
+                }
+            }
+        }
+
+        private void goOn(int at, int step, int take, int measure, int end) {
+            for (int fast = 1; fast <= FASTEST; fast++) {
+                int cost = moving[cellOf(at, fast)];
+                if (cost != NONE) {
+                    int left = speedLess(fast, take);
+                    arrive(at + left, left, grown(cost, measure, step, fast - left), end);
                 }
             }
         }
@@ -1509,8 +1525,8 @@ public final class SlipCoach {
             return Math.max(cost, measure == BY_STEP ? step : drop);
         }
 
-        private void arrive(int yard, int left, int cost, int length) {
-            if (yard > length) {
+        private void arrive(int yard, int left, int cost, int end) {
+            if (yard > end) {
                 return;
             }
             if (left == 0) {
@@ -1759,21 +1775,23 @@ public final class SlipCoach {
             return tick >= 0 && tick < lastTick[train];
         }
 
-        boolean isCoachOnLine(int coach, int tick) {
-            return letTick[coach] != NONE && tick >= letTick[coach]
-                    && (tick < endTick(coach) || isForGood(coach));
-        }
-
-        int coachFront(int coach, int tick) {
-            int own = Math.max(0, Math.min(tick - letTick[coach], wayTicks[coach]));
+        /** So many TICKS behind the one in which it was LET GO. */
+        int coachFront(int coach, int ticks) {
+            int own = Math.max(0, Math.min(ticks, wayTicks[coach]));
             return ways[coach * SPAN + own];
         }
     }
 
     /** The BREACH (V) of a journey that has been run, by the STARTS as they are. */
     private static final class Breach {
+        private static final int NEVER = 1000000;
+
         private final Track track;
         private final Journey journey;
+        private final int[] starts = new int[MOST_TRAINS];
+        /** The TICKS from which and until which a COACH is on the LINE. */
+        private final int[] from = new int[MOST_COACHES];
+        private final int[] until = new int[MOST_COACHES];
         int tick = NONE;
         int behind = NONE;
         int reached = NONE;
@@ -1788,15 +1806,16 @@ public final class SlipCoach {
             if (line == null) {
                 return false;
             }
+            setTimes(line);
             int last = lastOnLine(line);
             for (int at = 0; at <= last; at++) {
                 for (int train = 0; train < line.trains.count; train++) {
-                    int own = at - line.trains.get(train, START);
+                    int own = at - starts[train];
                     if (journey.isTrainOnLine(train, own)) {
-                        tick = at;
-                        behind = train;
-                        reached = reachedBy(line, journey.frontOf(train, own));
+                        reached = reachedBy(line, train, at, journey.frontOf(train, own));
                         if (reached != NONE) {
+                            tick = at;
+                            behind = train;
                             return true;
                         }
                     }
@@ -1805,38 +1824,55 @@ public final class SlipCoach {
             return false;
         }
 
+        private void setTimes(Line line) {
+            for (int train = 0; train < line.trains.count; train++) {
+                starts[train] = line.trains.get(train, START);
+            }
+            for (int coach = 0; coach < line.coaches.count; coach++) {
+                int start = line.trains.get(line.coaches.get(coach, TRAIN), START);
+                boolean let = journey.isLetGo(coach);
+                from[coach] = let ? start + journey.letTick[coach] : NEVER;
+                until[coach] = let && !journey.isForGood(coach) ? start + journey.endTick(coach) : NEVER;
+            }
+        }
+
         private int lastOnLine(Line line) {
             int last = NONE;
             for (int train = 0; train < line.trains.count; train++) {
-                last = Math.max(last, line.trains.get(train, START) + journey.lastTick[train]);
+                last = Math.max(last, starts[train] + journey.lastTick[train]);
             }
             return last;
         }
 
-        /** What the TRAIN behind, its front there, reaches in this TICK; NONE: nothing. */
-        private int reachedBy(Line line, int front) {
+        /** What a TRAIN, its front there, reaches behind this TICK; NONE: nothing. */
+        private int reachedBy(Line line, int train, int at, int front) {
             for (int coach = 0; coach < line.coaches.count; coach++) {
-                int train = line.coaches.get(coach, TRAIN);
-                int own = tick - line.trains.get(train, START);
-                if (isAhead(line, train) && journey.isCoachOnLine(coach, own)
-                        && front >= journey.coachFront(coach, own) - line.lengthOf(coach)) {
+                if (at >= from[coach] && at < until[coach] && isAhead(line.coaches.get(coach, TRAIN), train)
+                        && front >= journey.coachFront(coach, at - from[coach]) - line.lengthOf(coach)) {
                     return coach;
                 }
             }
-            for (int train = 0; train < line.trains.count; train++) {
-                int own = tick - line.trains.get(train, START);
-                if (isAhead(line, train) && journey.isTrainOnLine(train, own)
-                        && front >= journey.tailOf(train, own)) {
-                    return TRAIN_REACHED + train;
+            for (int other = 0; other < line.trains.count; other++) {
+                int own = at - starts[other];
+                if (isAhead(other, train) && journey.isTrainOnLine(other, own)
+                        && front >= journey.tailOf(other, own)) {
+                    return TRAIN_REACHED + other;
                 }
             }
             return NONE;
         }
 
-        private boolean isAhead(Line line, int train) {
-            int start = line.trains.get(train, START);
-            int other = line.trains.get(behind, START);
-            return start < other || start == other && train < behind;
+        private boolean isAhead(int train, int other) {
+            return starts[train] < starts[other] || starts[train] == starts[other] && train < other;
+        }
+
+        /** Whether a TRAIN, or a COACH of it, has a part in what was found. */
+        boolean concerns(int train) {
+            if (behind == train || reached == TRAIN_REACHED + train) {
+                return true;
+            }
+            return track.line != null && track.line.coaches.has(reached)
+                    && track.line.coaches.get(reached, TRAIN) == train;
         }
     }
 
