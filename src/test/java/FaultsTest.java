@@ -98,6 +98,12 @@ public final class FaultsTest {
         fault("coach 0 for 0 at 0;", 1, 0);
         fault("20;", 1, 0);
         fault("lines long 20;", 1, 0);
+        fault("linez long 20;", 1, 0);
+        fault("aline long 20;", 1, 0);
+        fault("line{long 20;", 1, 4);
+        fault("line`long 20;", 1, 4);
+        fault("line long 20:", 1, 12);
+        fault("line long 20/", 1, 12);
         fault("line long 20;line long 20;", 1, 13);
         fault("line long 20;;", 1, 13);
         fault("line long 20;foo", 1, 13);

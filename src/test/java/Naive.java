@@ -403,8 +403,17 @@ final class Naive {
                 for (int c = 0; c < n; c++) moveCoach(c, tick);
                 for (int t = 0; t < m; t++) moveTrain(t, tick);
                 if (breach == null) look(tick);
+                if (ended()) break;
             }
             return this;
+        }
+
+        private boolean ended() {
+            for (int g : gone) if (g < 0) return false;
+            for (int c = 0; c < at.length; c++) {
+                if (letTick[c] >= 0 && standTick[c] < 0 && offTick[c] < 0) return false;
+            }
+            return true;
         }
 
         private int[] fresh(int n) {

@@ -49,7 +49,7 @@ public final class OracleTest {
                 cheap(random.nextInt(CHEAP));
             }
             for (int i = 0; i < 3; i++) {
-                dear(random.nextInt(9));
+                dear(random.nextInt(10));
             }
         }
     }
@@ -171,7 +171,7 @@ public final class OracleTest {
         switch (which) {
             case 0: due.is("mistake " + sort + " " + n, x.mistake(sort, n), o.mistake(sort, n)); break;
             case 1: due.is("weak " + n, x.weak(n), o.weak(n)); break;
-            case 2: due.is("start " + t, x.start(t), o.start(t)); break;
+            case 2: case 7: case 8: due.is("start " + t, x.start(t), o.start(t)); break;
             case 3: due.is("best " + c, x.best(c), o.best(c)); break;
             case 4: due.is("margin " + c, x.margin(c, what), o.margin(c, what)); break;
             case 5: { int d = pick(20) + 1; due.is("days " + seed, x.days(seed, d, odds, n), o.days(seed, d, odds, n)); break; }

@@ -401,7 +401,25 @@ public final class PromisesTest {
         SlipCoach good = Due.told(ONE + "train starts 5 speed 9 loses 0;wet at 0 to 100 by 34;");
         DUE.is("start none: it STANDS at 100 for good, 99 is reached", good.start(1), -1);
         DUE.is("but ahead of it", good.start(0) > 5 ? 1 : 0, 1);
+        lateStarts();
         DUE.is("start alone", Due.told(ONE).start(0), 0);
+    }
+
+    /** TRAIN 0 is at the YARD of the TICK; TRAIN 1, from TICK s on by 15, must not come up to it below long. */
+    private static void lateStarts() {
+        for (int length = 300; length <= 330; length++) {
+            SlipCoach x = Due.told("line long " + length + ";train starts 0 speed 1 loses 0;"
+                    + "train starts 300 speed 15 loses 0;");
+            int due = -1;
+            for (int s = 300; s >= 1; s--) {
+                boolean meets = false;
+                for (int t = s; t < length && 15 * (t - s) < length; t++) {
+                    meets |= 15 * (t - s) >= t;
+                }
+                due = meets ? due : s;
+            }
+            DUE.is("start on a LINE of " + length, x.start(1), due);
+        }
     }
 
     private static void mistakes() {
@@ -422,6 +440,10 @@ public final class PromisesTest {
         DUE.is("no MISTAKE stays", x.breach(0), -1);
         DUE.is("no COACH errs", Due.told("line long 20;").mistake(0, 0), -1);
         DUE.is("no COACH errs", Due.told("line long 20;").weak(0), 0);
+        SlipCoach two = Due.told("line long 50;train starts 0 speed 1 loses 0;train starts 0 speed 1 loses 0;");
+        DUE.is("a BREACH without a MISTAKE", two.breach(2), 100);
+        DUE.is("but no COACH", two.mistake(1, 3), -1);
+        DUE.is("but no COACH", two.weak(3), 0);
     }
 
     private static void orders() {
@@ -475,6 +497,12 @@ public final class PromisesTest {
         DUE.is("saved n", Due.told(ONE).saved(0, 100), NOTHING);
         DUE.is("saved n", Due.told(ONE).saved(0, -1), NOTHING);
         DUE.is("saved train", Due.told(ONE).saved(1, 0), NOTHING);
+        // Where each COACH stops at once, it must be let go at the very end.
+        SlipCoach up = Due.told("line long 20;slope at 0 up 9;platform at 19 to 20;kind long 1 roll 0 brakes 1 1 1;"
+                + "train starts 0 speed 1 loses 0;coach 0 for 0 at 0;");
+        DUE.is("best at the end", up.best(0), 20);
+        DUE.is("margin at the end", up.margin(0, 0), 20);
+        DUE.is("margin at the end", up.margin(0, 1), 20);
         // THREE gone: 106 behind 13, then 12 a TICK: 118 (14) .. 202 (21): 18 TICKS; all kept: 6 a TICK, 29.
         DUE.is("saved", Due.told(THREE).saved(0, 0), 11);
         DUE.is("saved at two PLATFORMS", Due.told(THREE).saved(0, 10), 31);
