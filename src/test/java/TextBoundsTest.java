@@ -80,6 +80,29 @@ public final class TextBoundsTest {
         DUE.is("and no more", x.end(L.length() + P.length() + 1), -1);
         DUE.is("what was cut off is not read", x.line(), 1);
         DUE.is("what was left is read", x.count(2), 1);
+        cutWithinTokens();
+    }
+
+    /** What was cut off a word or a number is no part of it. */
+    private static void cutWithinTokens() {
+        SlipCoach x = new SlipCoach();
+        Due.tape(x, "lines long 201;");
+        x.end(4);
+        DUE.is("the word line alone", x.line(), -4);
+        DUE.is("the end's FAULT", x.fault(0), 1);
+        DUE.is("the end's place", x.fault(1), 4);
+        Due.tape(x, "line long 201;");
+        x.end(12);
+        DUE.is("the number 20 alone", x.line(), -4);
+        DUE.is("the end's FAULT", x.fault(0), 1);
+        DUE.is("the end's place", x.fault(1), 12);
+        x.feed(0x3b202020, 0x20202020, 0x20202020, 0x20202020, 0x20202020);
+        DUE.is("a sign behind it", x.line(), 1);
+        DUE.is("a sign behind it", x.count(0), 20);
+        fault("a".repeat(1600), 1, 0);
+        fault("line long " + "0".repeat(1588) + "20", 1, 1600);
+        DUE.is("the longest number", Due.told("line long " + "0".repeat(1587) + "20;").count(0), 20);
+        fault("line long " + "9".repeat(1589) + ";", 2, 10);
     }
 
     /** Promise 2: four of each number, the highest first. */
