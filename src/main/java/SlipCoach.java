@@ -1792,6 +1792,11 @@ public final class SlipCoach {
         /** The TICKS from which and until which a COACH is on the LINE. */
         private final int[] from = new int[MOST_COACHES];
         private final int[] until = new int[MOST_COACHES];
+        /** The COACHES and the TRAINS ahead of the one that is followed. */
+        private final int[] coaches = new int[MOST_COACHES];
+        private int coachesAhead = 0;
+        private final int[] trains = new int[MOST_TRAINS];
+        private int trainsAhead = 0;
         int tick = NONE;
         int behind = NONE;
         int reached = NONE;
@@ -1807,21 +1812,45 @@ public final class SlipCoach {
                 return false;
             }
             setTimes(line);
-            int last = lastOnLine(line);
-            for (int at = 0; at <= last; at++) {
-                for (int train = 0; train < line.trains.count; train++) {
-                    int own = at - starts[train];
-                    if (journey.isTrainOnLine(train, own)) {
-                        reached = reachedBy(line, train, at, journey.frontOf(train, own));
-                        if (reached != NONE) {
-                            tick = at;
-                            behind = train;
-                            return true;
-                        }
-                    }
+            tick = NEVER;
+            for (int train = 0; train < line.trains.count; train++) {
+                followTrain(line, train);
+            }
+            return tick != NEVER;
+        }
+
+        /** TICK by TICK, as long as what it reaches would be ahead of what was found by lesser TRAINS. */
+        private void followTrain(Line line, int train) {
+            int last = Math.min(journey.lastTick[train], tick - starts[train]);
+            lookAhead(line, train, starts[train] + last);
+            boolean free = coachesAhead == 0 && trainsAhead == 0;
+            for (int own = 0; own < last && !free; own++) {
+                int what = reachedAt(line, starts[train] + own, journey.frontOf(train, own));
+                if (what != NONE) {
+                    tick = starts[train] + own;
+                    behind = train;
+                    reached = what;
+                    return;
                 }
             }
-            return false;
+        }
+
+        /** Gathers what is ahead of a TRAIN, but for what is on the LINE in none of its TICKS. */
+        private void lookAhead(Line line, int train, int end) {
+            coachesAhead = 0;
+            trainsAhead = 0;
+            for (int coach = 0; coach < line.coaches.count; coach++) {
+                if (isAhead(line.coaches.get(coach, TRAIN), train) && from[coach] < end && until[coach] > starts[train]) {
+                    coaches[coachesAhead] = coach;
+                    coachesAhead++;
+                }
+            }
+            for (int other = 0; other < line.trains.count; other++) {
+                if (isAhead(other, train) && starts[other] + journey.lastTick[other] > starts[train]) {
+                    trains[trainsAhead] = other;
+                    trainsAhead++;
+                }
+            }
         }
 
         private void setTimes(Line line) {
@@ -1836,27 +1865,19 @@ public final class SlipCoach {
             }
         }
 
-        private int lastOnLine(Line line) {
-            int last = NONE;
-            for (int train = 0; train < line.trains.count; train++) {
-                last = Math.max(last, starts[train] + journey.lastTick[train]);
-            }
-            return last;
-        }
-
-        /** What a TRAIN, its front there, reaches behind this TICK; NONE: nothing. */
-        private int reachedBy(Line line, int train, int at, int front) {
-            for (int coach = 0; coach < line.coaches.count; coach++) {
-                if (at >= from[coach] && at < until[coach] && isAhead(line.coaches.get(coach, TRAIN), train)
+        /** What a front there reaches behind this TICK of all that was gathered; NONE: nothing. */
+        private int reachedAt(Line line, int at, int front) {
+            for (int i = 0; i < coachesAhead; i++) {
+                int coach = coaches[i];
+                if (at >= from[coach] && at < until[coach]
                         && front >= journey.coachFront(coach, at - from[coach]) - line.lengthOf(coach)) {
                     return coach;
                 }
             }
-            for (int other = 0; other < line.trains.count; other++) {
-                int own = at - starts[other];
-                if (isAhead(other, train) && journey.isTrainOnLine(other, own)
-                        && front >= journey.tailOf(other, own)) {
-                    return TRAIN_REACHED + other;
+            for (int i = 0; i < trainsAhead; i++) {
+                int own = at - starts[trains[i]];
+                if (journey.isTrainOnLine(trains[i], own) && front >= journey.tailOf(trains[i], own)) {
+                    return TRAIN_REACHED + trains[i];
                 }
             }
             return NONE;

@@ -28,15 +28,23 @@ public final class RoomTest {
                 Method m = all[random.nextInt(all.length)];
                 Object[] with = new Object[m.getParameterCount()];
                 for (int i = 0; i < with.length; i++) {
-                    int n = random.nextInt(3) == 0 ? EDGES[random.nextInt(EDGES.length)] : random.nextInt(17);
+                    int n = argument(random);
                     if (m.getParameterTypes()[i] == long.class) {
-                        with[i] = (long) n;
+                        with[i] = random.nextBoolean() ? (long) n : random.nextLong();
                     } else {
                         with[i] = n;
                     }
                 }
                 DUE.is(m.getName() + Arrays.toString(with), throwsAny(m, x, with) ? 1 : 0, 0);
             }
+        }
+    }
+
+    private static int argument(Random random) {
+        switch (random.nextInt(12)) {
+            case 0: return random.nextInt();
+            case 1: case 2: case 3: return EDGES[random.nextInt(EDGES.length)];
+            default: return random.nextInt(17);
         }
     }
 
