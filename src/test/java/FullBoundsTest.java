@@ -24,6 +24,7 @@ public final class FullBoundsTest {
         bestIsNotTheFirst();
         weakBrakesByStep();
         ordersByOneYard();
+        beyondTheLongest();
         DUE.close("FullBoundsTest");
     }
 
@@ -481,5 +482,37 @@ public final class FullBoundsTest {
         for (int i = 0; i < 3; i++) {
             DUE.is("order as it is " + i, x.order(0, i), due[i]);
         }
+    }
+
+    /** YARDS beyond 400 are none, whatever comes there. */
+    private static void beyondTheLongest() {
+        SlipCoach x = Due.told("line long 400;platform at 390 to 400;kind long 5 roll 0 brakes 1 2 3;"
+                + "train starts 0 speed 15 loses 0;coach 0 for 0 at 400;train starts 300 speed 15 loses 0;");
+        x.row(0, 0, 60);
+        DUE.is("tick", x.tick(0, 400, 15, 0, 0), 415);
+        DUE.is("told", x.told(0, 0, 400, 15), -1);
+        DUE.is("told", x.told(0, 0, 400, 1), -1);
+        DUE.is("judge", x.judge(0, 0, 0, 400, 15), 0);
+        DUE.is("judge", x.judge(0, 0, 0, 399, 1), 1);
+        DUE.is("can", x.can(0, 0, 400, 4), 0);
+        DUE.is("can", x.can(0, 0, 400, 3), 1);
+        DUE.is("stands", x.stands(0, 400, 4, 2), 0);
+        DUE.is("stands", x.stands(0, 400, 3, 1), 400);
+        // 5, 20, .., 395, 410: let go there, it has run off.
+        DUE.is("lets", x.lets(0, 1), 410);
+        DUE.is("clear", x.clear(0), 27);
+        DUE.is("comes", x.comes(0, 0), -1);
+        DUE.is("comes", x.comes(0, 2), NOTHING);
+        DUE.is("passes", x.passes(0, 400), 27);
+        DUE.is("best: each POST needs 15, so the first", x.best(0), x.margin(0, 0));
+        DUE.is("breach", x.breach(0), -1);
+        DUE.is("good", x.good(), 0);
+        DUE.is("a later POST is long at most", x.mistake(1, 99), -1);
+        int sum = 0;
+        for (int post = 0; post <= 400; post += 50) {
+            x.post(0, post);
+            sum += x.good();
+        }
+        DUE.is("good by POSTS up to 350: let go at 50 .. 350", sum, 8);
     }
 }
