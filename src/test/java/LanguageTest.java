@@ -1,8 +1,15 @@
 import com.sun.source.tree.AssertTree;
 import com.sun.source.tree.BinaryTree;
+import com.sun.source.tree.BlockTree;
 import com.sun.source.tree.ClassTree;
 import com.sun.source.tree.CompilationUnitTree;
+import com.sun.source.tree.DoWhileLoopTree;
+import com.sun.source.tree.EnhancedForLoopTree;
+import com.sun.source.tree.ExpressionTree;
+import com.sun.source.tree.ForLoopTree;
+import com.sun.source.tree.InstanceOfTree;
 import com.sun.source.tree.LambdaExpressionTree;
+import com.sun.source.tree.LiteralTree;
 import com.sun.source.tree.MemberReferenceTree;
 import com.sun.source.tree.MethodInvocationTree;
 import com.sun.source.tree.MethodTree;
@@ -11,8 +18,11 @@ import com.sun.source.tree.SynchronizedTree;
 import com.sun.source.tree.ThrowTree;
 import com.sun.source.tree.Tree;
 import com.sun.source.tree.TryTree;
+import com.sun.source.tree.TypeCastTree;
 import com.sun.source.tree.VariableTree;
+import com.sun.source.tree.WhileLoopTree;
 import com.sun.source.util.JavacTask;
+import com.sun.source.util.TreePath;
 import com.sun.source.util.TreePathScanner;
 import com.sun.source.util.Trees;
 import java.io.File;
@@ -48,6 +58,8 @@ public final class LanguageTest {
     private static final Set<String> LIBRARY = Set.of("java.lang.Math.max", "java.lang.Math.min",
             "java.lang.Integer.bitCount", "java.lang.System.arraycopy", "java.util.Arrays.fill",
             "java.lang.String.length", "java.lang.String.charAt", "java.lang.Object.<init>");
+    private static final Set<String> IMPORTS = Set.of("java.util.Arrays");
+    private static final Set<String> PLAIN = Set.of("int", "long", "short", "byte", "char", "boolean");
     private static final int DEEPEST = 8;
     private static final Due DUE = new Due();
 
@@ -120,6 +132,9 @@ public final class LanguageTest {
             ok("rule 11: twelve classes", classes <= 12);
             int fields = 0;
             for (Tree member : node.getMembers()) {
+                if (member instanceof BlockTree) {
+                    never("rule 5: an initialiser block", member);
+                }
                 if (member instanceof VariableTree v) {
                     Set<javax.lang.model.element.Modifier> m = v.getModifiers().getFlags();
                     boolean fixed = m.contains(javax.lang.model.element.Modifier.STATIC);
@@ -215,7 +230,83 @@ public final class LanguageTest {
             if (node.getKind() == Tree.Kind.PLUS && trees.getTypeMirror(getCurrentPath()).toString().contains("String")) {
                 never("texts joined by +", node);
             }
+            boolean same = node.getKind() == Tree.Kind.EQUAL_TO || node.getKind() == Tree.Kind.NOT_EQUAL_TO;
+            if (same && typeOf(node.getLeftOperand()).contains("String")) {
+                never("rule 6: == between texts", node);
+            }
             return super.visitBinary(node, p);
+        }
+
+        private String typeOf(Tree tree) {
+            return String.valueOf(trees.getTypeMirror(new TreePath(getCurrentPath(), tree)));
+        }
+
+        /** Rule 3, as far as the class has a use for it: no double, no float, no list. */
+        private static boolean isAllowed(String type) {
+            String element = type.endsWith("[][]") ? type.substring(0, type.length() - 4)
+                    : type.endsWith("[]") ? type.substring(0, type.length() - 2) : type;
+            if (PLAIN.contains(element)) {
+                return true;
+            }
+            return type.equals("java.lang.String") || element.startsWith("SlipCoach") && !type.endsWith("[][]");
+        }
+
+        @Override public Void visitImport(com.sun.source.tree.ImportTree node, Void p) {
+            String name = node.getQualifiedIdentifier().toString();
+            ok("rule 4: import of " + name, !node.isStatic() && IMPORTS.contains(name));
+            return super.visitImport(node, p);
+        }
+
+        @Override public Void visitVariable(VariableTree node, Void p) {
+            String type = String.valueOf(trees.getTypeMirror(getCurrentPath()));
+            ok("rule 3: " + type + " " + node.getName(), isAllowed(type));
+            return super.visitVariable(node, p);
+        }
+
+        @Override public Void visitLiteral(LiteralTree node, Void p) {
+            if (node.getValue() instanceof String text) {
+                ok("rule 4: the signs of " + text, text.chars().allMatch(c -> c >= 1 && c <= 127));
+            }
+            ok("rule 3: no double and no float", !(node.getValue() instanceof Double) && !(node.getValue() instanceof Float));
+            return super.visitLiteral(node, p);
+        }
+
+        @Override public Void visitTypeCast(TypeCastTree node, Void p) {
+            ok("rule 6: a cast to " + node.getType(), PLAIN.contains(node.getType().toString()));
+            return super.visitTypeCast(node, p);
+        }
+
+        @Override public Void visitInstanceOf(InstanceOfTree node, Void p) {
+            never("instanceof, which the class has no use for", node);
+            return null;
+        }
+
+        /** Rule 9: a loop says itself when it ends. */
+        private void looped(ExpressionTree condition, Tree node) {
+            String text = condition == null ? "true" : condition.toString().replaceAll("[() ]", "");
+            if (text.equals("true")) {
+                never("rule 9: a loop without an end", node);
+            }
+        }
+
+        @Override public Void visitForLoop(ForLoopTree node, Void p) {
+            looped(node.getCondition(), node);
+            return super.visitForLoop(node, p);
+        }
+
+        @Override public Void visitWhileLoop(WhileLoopTree node, Void p) {
+            looped(node.getCondition(), node);
+            return super.visitWhileLoop(node, p);
+        }
+
+        @Override public Void visitDoWhileLoop(DoWhileLoopTree node, Void p) {
+            looped(node.getCondition(), node);
+            return super.visitDoWhileLoop(node, p);
+        }
+
+        @Override public Void visitEnhancedForLoop(EnhancedForLoopTree node, Void p) {
+            ok("rule 12: for over an array, not over a list", typeOf(node.getExpression()).endsWith("[]"));
+            return super.visitEnhancedForLoop(node, p);
         }
 
         void depths() {
