@@ -23,6 +23,9 @@ public final class DocumentTest {
         setsOfCoachNumbers();
         drawsOneByOne();
         savedWhateverTheStart();
+        toHisPlatform();
+        postsBehindAnother();
+        allHandlingsAnew();
         slotsStay();
         DUE.close("DocumentTest");
     }
@@ -41,7 +44,8 @@ public final class DocumentTest {
                 + "train starts 0 speed 10 loses 0;coach 0 for 0 at 50;train starts 5 speed 9 loses 0;";
         int calls = 0;
         int[] first = null;
-        while (calls < 512) {
+        int round = (text.length() + 19) / 20 + 18;
+        while (calls + round <= 512) {
             for (int i = 0; i < text.length(); i += 20) {
                 x.feed(Due.four(text, i), Due.four(text, i + 4), Due.four(text, i + 8), Due.four(text, i + 12),
                         Due.four(text, i + 16));
@@ -51,6 +55,7 @@ public final class DocumentTest {
                 x.breach(0), x.back(1), x.comes(0, 0), x.weak(30), x.start(1), x.days(1, 20, 50, 30), x.best(0),
                 x.wetter(0, 0, 50, 10), x.row(0, 0, 60), x.write(0, 59, 3), x.told(0, 0, 0, 1), x.count(6)};
             calls += answers.length;
+            DUE.is("calls of a round", calls % round, 0);
             first = first == null ? answers : first;
             for (int i = 0; i < answers.length; i++) {
                 DUE.is("answer " + i + " of the calls up to " + calls, answers[i], first[i]);
@@ -108,12 +113,11 @@ public final class DocumentTest {
 
     /** V: "from where he is in each TICK", "(the guard does not know)": asked of step() TICK by TICK. */
     private static void brakesFromWhereHeIs() {
-        SlipCoach x = Due.told("line long 100;platform at 60 to 80;kind long 5 roll 1 brakes 1 3 8;"
-                + "train starts 0 speed 10 loses 0;coach 0 for 0 at 0;");
         int well = 0;
         int other = 0;
         for (int post = 0; post <= 100; post++) {
-            x.post(0, post);
+            SlipCoach x = Due.told("line long 100;platform at 60 to 80;kind long 5 roll 1 brakes 1 3 8;"
+                    + "train starts 0 speed 10 loses 0;coach 0 for 0 at " + post + ";");
             int in = weakEnd(x, true);
             DUE.is("weak brakes from POST " + post, x.day(0, 1, 0), in);
             well += in;
@@ -325,6 +329,83 @@ public final class DocumentTest {
             // 45 TICKS by 1 with it; 1 and 15 by 3 without.
             DUE.is("saved from START " + start, x.saved(0, 0), 29);
             DUE.is("saved from START " + start, x.saved(0, 4), 33);
+        }
+    }
+
+    /** V: "to his PLATFORM": another one that he comes through is none of his. */
+    private static void toHisPlatform() {
+        SlipCoach x = Due.told("line long 100;platform at 0 to 5;platform at 30 to 100;kind long 5 roll 0 brakes 1 2 3;"
+                + "train starts 0 speed 10 loses 0;coach 0 for 0 at 20;train starts 200 speed 1 loses 0;");
+        // LET GO at 25 by 10 behind 2; by STEP 3: 32, 36, 37, and there it STANDS.
+        DUE.is("comes", x.comes(0, 0), 37);
+        DUE.is("comes", x.comes(0, 1), 6);
+        DUE.is("comes", x.comes(0, 2), -32);
+        DUE.is("clear", x.clear(0), -1);
+        DUE.is("good", x.good(), 0);
+        DUE.is("day", x.day(0, 0, 0), 0);
+        breachIs("the tail at 32", x, 232, 1, 0);
+    }
+
+    /** Promises 40 and 41: "all else as it is": what is behind a COACH keeps it back. */
+    private static void postsBehindAnother() {
+        String text = STEEP + "platform at 20 to 30;" + SLOW + "coach 0 for 0 at 50;coach 0 for 0 at ";
+        SlipCoach x = Due.told(text + "30;");
+        DUE.is("margin: let go with the one behind it", x.margin(0, 0), 0);
+        DUE.is("margin", x.margin(0, 1), 30);
+        DUE.is("best", x.best(0), 0);
+        SlipCoach late = Due.told(text + "31;");
+        DUE.is("margin: let go too late by each POST", late.margin(0, 0), -1);
+        DUE.is("margin", late.margin(0, 1), -1);
+        DUE.is("best", late.best(0), -1);
+        SlipCoach early = Due.told(text + "24;");
+        DUE.is("margin: the one behind it is gone", early.margin(0, 0), 25);
+        DUE.is("margin", early.margin(0, 1), 30);
+        // Swapped it is the last one, let go with its front 5 YARDS behind the TRAIN's.
+        early.swap(0, 1);
+        DUE.is("margin of the last one", early.margin(0, 0), 30);
+        DUE.is("margin of the last one", early.margin(0, 1), 35);
+    }
+
+    /** Each KIND to each PLATFORM, asked for ahead of and behind what changes LINE or RAIN. */
+    private static void allHandlingsAnew() {
+        SlipCoach x = Due.told(fourKinds(40));
+        pairsAre("dry", x, 40, 1);
+        x.keep(2);
+        x.rain(100);
+        pairsAre("in RAIN", x, 40, 0);
+        x.keep(0);
+        x.rain(0);
+        pairsAre("dry once more", x, 40, 1);
+        x.back(0);
+        pairsAre("back to RAIN", x, 40, 0);
+        x.back(2);
+        pairsAre("back to none", x, 40, 1);
+        Due.tape(x, fourKinds(30));
+        x.line();
+        pairsAre("on another LINE", x, 30, 1);
+    }
+
+    private static String fourKinds(int length) {
+        StringBuilder text = new StringBuilder("line long 400;");
+        for (int p = 0; p < 6; p++) {
+            text.append("platform at ").append(60 * p).append(" to ").append(60 * p + length).append(';');
+        }
+        for (int k = 1; k <= 4; k++) {
+            text.append("kind long ").append(k).append(" roll 0 brakes ").append(k).append(' ').append(2 * k).append(" 9;");
+        }
+        return text.toString();
+    }
+
+    /** At to by 9: it STANDS at once by STEP 3, or it can't be; a YARD beyond it never can. */
+    private static void pairsAre(String name, SlipCoach x, int length, int may) {
+        for (int kind = 0; kind < 4; kind++) {
+            for (int platform = 0; platform < 6; platform++) {
+                int to = 60 * platform + length;
+                String pair = name + ": KIND " + kind + " to PLATFORM " + platform;
+                DUE.is(pair + ", can", x.can(kind, platform, to, 9), may);
+                DUE.is(pair + ", step", x.step(kind, platform, to, 9), may == 1 ? 3 : -1);
+                DUE.is(pair + ", beyond", x.can(kind, platform, to + 1, 9), 0);
+            }
         }
     }
 
