@@ -20,6 +20,7 @@ public final class TextBoundsTest {
         firstClause();
         everyByte();
         everyToken();
+        everyLetter();
         placesOfTheEnd();
         firstByPlace();
         toldAhead();
@@ -358,6 +359,23 @@ public final class TextBoundsTest {
         fault("line at 20;", 1, 5);
         fault("line long long;", 1, 10);
         fault("line long 20 20;", 1, 13);
+    }
+
+    /** Each letter of each word counts: one that is another makes it another word, which can't stand there. */
+    private static void everyLetter() {
+        String text = "line long 50;slope at 0 up 1;slope at 0 down 1;wet at 0 to 1 by 1;limit at 0 of 1;platform at 0 to 1;"
+                + "kind long 1 roll 0 brakes 1 1 1;train starts 0 speed 1 loses 0;coach 0 for 0 at 0;";
+        DUE.is("as it is", Due.told(text).count(4), 1);
+        int word = 0;
+        for (int i = 0; i < text.length(); i++) {
+            char c = text.charAt(i);
+            if (c >= 'a' && c <= 'z') {
+                word = i > 0 && text.charAt(i - 1) >= 'a' && text.charAt(i - 1) <= 'z' ? word : i;
+                fault(text.substring(0, i) + (c == 'z' ? 'a' : (char) (c + 1)) + text.substring(i + 1), 1, word);
+                fault(text.substring(0, i) + (c == 'a' ? 'z' : (char) (c - 1)) + text.substring(i + 1), 1, word);
+                fault(text.substring(0, i) + (char) (c - 32) + text.substring(i + 1), 1, word);
+            }
+        }
     }
 
     private static int restLength(String[] tokens, int i) {
